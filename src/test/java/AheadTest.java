@@ -16,21 +16,31 @@ public final class AheadTest {
     private static void promise16Foresee() {
         DewPond downs = busyDowns();
         long before = downs.digest();
-        int[] foreseen = new int[101];
-        for (int days = 1; days <= 100; days++) {
-            foreseen[days] = downs.foresee(2, days);
+        int[][] foreseen = new int[10][101];
+        for (int pond = 0; pond < 10; pond++) {
+            for (int days = 1; days <= 100; days++) {
+                foreseen[pond][days] = downs.foresee(pond, days);
+            }
         }
         Check.due("foresee changes nothing", downs.digest(), before);
-        int differs = 0;
+        int moves = 0;
         for (int days = 1; days <= 100; days++) {
+            int stood = downs.flock(4, 1);
             downs.pass(1);
-            Check.due("foresee(2, " + days + ")", foreseen[days], downs.pond(2, 5));
-            differs += foreseen[days] != foreseen[1] ? 1 : 0;
+            moves += downs.flock(4, 1) != stood ? 1 : 0;
+            for (int pond = 0; pond < 10; pond++) {
+                Check.due("foresee(" + pond + ", " + days + ")", foreseen[pond][days], downs.pond(pond, 5));
+            }
         }
-        Check.due("the water is not always the same", differs > 0, true);
+        int over = 0;
+        for (int pond = 0; pond < 10; pond++) {
+            over += downs.pond(pond, 10) > 0 ? 1 : 0;
+        }
+        Check.due("ponds ran over meanwhile", over >= 5, true);
+        Check.due("a flock roamed meanwhile", moves > 3, true);
         Check.illegalArgument("foresee(0, 0)", downs, () -> downs.foresee(0, 0));
         Check.illegalArgument("foresee(0, 101)", downs, () -> downs.foresee(0, 101));
-        Check.outOfBounds("foresee(4, 0)", downs, () -> downs.foresee(4, 0));
+        Check.outOfBounds("foresee(10, 0)", downs, () -> downs.foresee(10, 0));
         Check.outOfBounds("foresee(-1, 1)", downs, () -> downs.foresee(-1, 1));
     }
 
@@ -218,6 +228,11 @@ public final class AheadTest {
         Check.due("a third", downs.full(), 100.0 / 300.0);
         downs.pour(1, 33);
         Check.due("all water by all that they hold", downs.full(), 133.0 / 300.0);
+        for (int pond = 2; pond < 10; pond++) {
+            downs.dig(pond, 0, 0, 5, 1);
+            downs.pour(pond, pond);
+        }
+        Check.due("full of ten ponds", downs.full(), 177.0 / 700.0);
     }
 
     private static void promise21Digest() {
@@ -264,29 +279,35 @@ public final class AheadTest {
     }
 
     private static int[] weatherOf(int day) {
-        return new int[] {(day * 7) % 10, (day * 3 + 1) % 5, (day * 9 + 4) % 10};
+        return new int[] {(day * 7) % 10, day < 4 ? 9 : day % 3, (day * 9 + 4) % 10};
     }
 
+    /** As many ponds and flocks as there may be; most ponds run over, and some flocks roam. */
     private static DewPond busyDowns() {
         DewPond downs = new DewPond();
-        downs.dig(10, 10, 250, 15, 2);
-        downs.dig(14, 10, 120, 20, 3);
-        downs.dig(18, 12, 80, 30, 2);
-        downs.dig(10, 20, 180, 40, 1);
-        downs.link(0, 1);
-        downs.link(1, 2);
-        downs.link(3, 2);
+        int[] heights = {80, 250, 149, 30, 180, 150, 300, 60, 120, 0};
+        int[] into = {3, 2, 0, 9, 5, 7, 1, 3, 7, -1};
+        int[] sheep = {6, 9, 12, 15, 70, 21};
+        for (int pond = 0; pond < heights.length; pond++) {
+            downs.dig(pond * 7 % 41, pond * 11 % 41, heights[pond], 10 + pond * 3, pond < 8 ? 1 : 2);
+        }
+        for (int pond = 0; pond < into.length; pond++) {
+            downs.link(pond, into[pond]);
+        }
         for (int day = 0; day < 10; day++) {
             int[] weather = weatherOf(day);
             downs.setWeather(day, weather[0], weather[1], weather[2]);
         }
-        downs.puddle(2, 60);
-        downs.strew(3, true);
-        downs.addFlock(2, 20);
-        downs.addFlock(3, 12);
-        downs.setRoams(1, true);
-        downs.pour(2, 300);
-        downs.pour(3, 350);
+        for (int pond = 0; pond < 10; pond++) {
+            downs.bring(90);
+            downs.puddle(pond, 90);
+            downs.pour(pond, 10 * pond);
+        }
+        downs.strew(4, true);
+        for (int flock = 0; flock < 6; flock++) {
+            downs.addFlock(4 + flock, sheep[flock]);
+            downs.setRoams(flock, flock > 2);
+        }
         return downs;
     }
 }

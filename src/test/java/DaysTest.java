@@ -19,6 +19,7 @@ public final class DaysTest {
         stepOrder();
         promise14Pass();
         promise15Count();
+        promise15CountOfAFullHouse();
         Check.end();
     }
 
@@ -376,6 +377,27 @@ public final class DaysTest {
         }
         Check.outOfBounds("count(8)", downs, () -> downs.count(8));
         Check.outOfBounds("count(-1)", downs, () -> downs.count(-1));
+    }
+
+    private static void promise15CountOfAFullHouse() {
+        DewPond downs = new DewPond();
+        for (int pond = 0; pond < 10; pond++) {
+            downs.dig(pond, pond, 10 * pond, 10, 9);
+            downs.pour(pond, 100 - 10 * pond);
+        }
+        for (int flock = 0; flock < 6; flock++) {
+            downs.addFlock(flock, 1 + flock);
+        }
+        int[] due = {0, 10, 6, 0, 100, 550, 0, 21};
+        for (int what = 0; what < due.length; what++) {
+            Check.due("a full house: count(" + what + ")", downs.count(what), due[what]);
+        }
+        downs.pour(0, -100);
+        downs.pour(9, -10);
+        Check.due("two are dry: count(6)", downs.count(6), 2);
+        downs.strew(9, true);
+        downs.pass(10);
+        Check.due("a full house: straw behind day 9", downs.pond(9, 7), 0);
     }
 
     /** Digs the pond with this number at a place of its own, with a lining of 100 from the heap. */

@@ -141,8 +141,11 @@ public final class LongRunsTest {
             return (int) Long.remainderUnsigned(state >>> 33, bound);
         }
 
-        /** A number of the range, mostly one of its first span, seldom its ends or beside them. */
+        /** A number of the range, mostly one of its first span, seldom its ends, beside them, or far off. */
         int of(int least, int most, int span) {
+            if (below(300) == 0) {
+                return below(2) == 0 ? Integer.MIN_VALUE : Integer.MAX_VALUE;
+            }
             switch (below(24)) {
                 case 0: return least - 1 + below(2);
                 case 1: return most + below(2);
