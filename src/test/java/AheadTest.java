@@ -14,30 +14,30 @@ public final class AheadTest {
     }
 
     private static void promise16Foresee() {
-        DewPond downs = busyDowns();
-        long before = downs.digest();
-        int[][] foreseen = new int[10][101];
-        for (int pond = 0; pond < 10; pond++) {
-            for (int days = 1; days <= 100; days++) {
-                foreseen[pond][days] = downs.foresee(pond, days);
-            }
-        }
-        Check.due("foresee changes nothing", downs.digest(), before);
         int moves = 0;
-        for (int days = 1; days <= 100; days++) {
-            int stood = downs.flock(4, 1);
-            downs.pass(1);
-            moves += downs.flock(4, 1) != stood ? 1 : 0;
-            for (int pond = 0; pond < 10; pond++) {
-                Check.due("foresee(" + pond + ", " + days + ")", foreseen[pond][days], downs.pond(pond, 5));
-            }
-        }
         int over = 0;
         for (int pond = 0; pond < 10; pond++) {
+            // Downs of their own for each pond, because an object is used for 512 calls at most.
+            DewPond downs = busyDowns();
+            long before = downs.digest();
+            int[] foreseen = new int[101];
+            for (int days = 1; days <= 100; days++) {
+                foreseen[days] = downs.foresee(pond, days);
+            }
+            Check.due("foresee changes nothing", downs.digest(), before);
+            int stood = downs.flock(4, 1);
+            for (int days = 1; days <= 100; days++) {
+                downs.pass(1);
+                Check.due("foresee(" + pond + ", " + days + ")", foreseen[days], downs.pond(pond, 5));
+                int stands = downs.flock(4, 1);
+                moves += stands != stood ? 1 : 0;
+                stood = stands;
+            }
             over += downs.pond(pond, 10) > 0 ? 1 : 0;
         }
         Check.due("ponds ran over meanwhile", over >= 5, true);
         Check.due("a flock roamed meanwhile", moves > 3, true);
+        DewPond downs = busyDowns();
         Check.illegalArgument("foresee(0, 0)", downs, () -> downs.foresee(0, 0));
         Check.illegalArgument("foresee(0, 101)", downs, () -> downs.foresee(0, 101));
         Check.outOfBounds("foresee(10, 0)", downs, () -> downs.foresee(10, 0));

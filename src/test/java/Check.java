@@ -2,12 +2,32 @@
 final class Check {
     private static int wrong = 0;
     private static int checks = 0;
+    private static int checksOfSentence = 1;
+    private static String sentence = "";
 
     private Check() {
     }
 
-    static void due(String what, long got, long due) {
+    /** The checks that follow are for this sentence of the document; a fault tells it. */
+    static void sentence(String text) {
+        endSentence();
+        sentence = text;
+        checksOfSentence = 0;
+    }
+
+    private static void endSentence() {
+        if (checksOfSentence == 0) {
+            fault("nothing is checked for it");
+        }
+    }
+
+    private static void counted() {
         checks++;
+        checksOfSentence++;
+    }
+
+    static void due(String what, long got, long due) {
+        counted();
         if (got != due) {
             fault(what + " answered " + got + ", due is " + due);
         }
@@ -18,7 +38,7 @@ final class Check {
     }
 
     static void due(String what, double got, double due) {
-        checks++;
+        counted();
         if (got != due) {
             fault(what + " answered " + got + ", due is " + due);
         }
@@ -26,7 +46,7 @@ final class Check {
 
     /** The call throws just this exception, and changes nothing that can be asked. */
     static void refused(String what, Class<? extends RuntimeException> kind, DewPond downs, Runnable call) {
-        checks++;
+        counted();
         long before = downs.digest();
         RuntimeException thrown = null;
         try {
@@ -56,10 +76,11 @@ final class Check {
 
     static void fault(String text) {
         wrong++;
-        System.out.println(text);
+        System.out.println((sentence.isEmpty() ? "" : "[" + sentence + "] ") + text);
     }
 
     static void end() {
+        endSentence();
         System.out.println(checks + " checks, " + wrong + " wrong");
         if (wrong != 0 || checks == 0) {
             System.exit(1);
