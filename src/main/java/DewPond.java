@@ -273,7 +273,6 @@ public final class DewPond {
         return sum;
     }
 
-    /** Whether a new flock of so many sheep has no thirst behind each of the days. */
     private boolean canKeep(int pond, int sheep, int days) {
         ahead.becomeLike(downs);
         Flock tried = ahead.flockAt(ahead.makeFlock(pond, sheep));
@@ -300,7 +299,6 @@ public final class DewPond {
         return number >= least && number <= most;
     }
 
-    /** The weather of one day of the table. */
     private static final class Weather {
         int mist;
         int rain;
